@@ -810,8 +810,8 @@ public final class PathReader {
                     int left = spanPlace(1, root - 1, root, reading);
                     int right = spanPlace(root + 1, last, root, reading);
                     if (cost != NONE) {
-                        long share = share(cost, repair, Row.part(root, reading, 0));
-                        least = Math.min(least, share + leastOfTrees[left] + leastOfTrees[right]);
+                        long rootShare = share(cost, repair, Row.part(root, reading, 0));
+                        least = Math.min(least, rootShare + leastOfTrees[left] + leastOfTrees[right]);
                         analyses += countOfTrees[left] * countOfTrees[right];
                     }
                 }

@@ -21,6 +21,7 @@ public final class PromiseTest {
         of();
         hears();
         hearsTies();
+        hearsFarBack();
         stuck();
         unhears();
         silence();
@@ -260,6 +261,29 @@ public final class PromiseTest {
         y.sets(0, 0);
         y.hears(0);
         due("word(3, 2): HEAD 1 ahead of HEAD 2 with no FARNESS", y.word(3, 2), 1);
+    }
+
+    private static void hearsFarBack() {
+        promise = 8;
+        // SORT 2 closes: WORD 1 can only be read as SORT 3 then, four WORDS back
+        PathReader x = new PathReader();
+        x.entry(0, 3, 1);
+        x.entry(1, NONE, 0);
+        x.entry(2, NONE, 0);
+        x.rules(0, 1, 1, 0);
+        x.rules(3, 1, 1, 0);
+        x.rules(2, 3, 0, 0);
+        x.roots(2, 0);
+        x.hears(0);
+        x.hears(1);
+        x.hears(1);
+        x.hears(1);
+        due("hears(2)", x.hears(2), 8);
+        due("word(1, 1)", x.word(1, 1), 1);
+        due("word(1, 2)", x.word(1, 2), 5);
+        due("word(5, 4)", x.word(5, 4), 1);
+        // EXTRA 1; 1 and 2 WORDS between 1 and its own; 3 between 1 and 5
+        due("word(5, 5)", x.word(5, 5), 7);
     }
 
     private static void stuck() {
@@ -602,6 +626,19 @@ public final class PromiseTest {
         due("word(3, 0)", y.word(3, 0), 2);
         due("word(3, 3)", y.word(3, 3), 6);
         due("word(2, 1)", y.word(2, 1), 1);
+        y.sets(2, 5);
+        y.rereads();
+        y.rules(0, 1, 0, 3);
+        y.rereads();
+        due("held(4)", y.held(4), 5);
+        y.sets(2, 6);
+        y.rereads();
+        due("held(2)", y.held(2), 0);
+        y.back();
+        due("held(2): STUMBLES come back", y.held(2), 1);
+        y.back();
+        y.back();
+        due("held(4): COSTS come back", y.held(4), 2);
         y.rules(5, 5, 1, 5);
         y.roots(5, 5);
         y.entry(5, 4, 5);
